@@ -27,7 +27,7 @@ public final class ModelTest {
     TideMill x = new TideMill();
     Model model = new Model();
     for (int i = 0; i < CALLS; i++) {
-      Call call = Call.drawn(random, i);
+      Call call = Call.drawn(random, i, run % 2 == 1);
       int got = call.on(x);
       int want = model.answer(call);
       if (got != want) {
@@ -45,10 +45,10 @@ public final class ModelTest {
       "told", "told", "told", "flour", "flour", "hours", "hours", "hours", "running", "running", "best", "best",
       "ahead", "all", "all", "tell", "tell", "check", "count", "found"};
 
-    static Call drawn(Random r, int i) {
+    static Call drawn(Random r, int i, boolean small) {
       String[] from = i < 40 ? BUILDING : ANY;
       String name = from[r.nextInt(from.length)];
-      int[] a = arguments(name, r);
+      int[] a = small ? smaller(name, arguments(name, r)) : arguments(name, r);
       if (a.length > 0 && r.nextInt(25) == 0) {
         int[] odd = {-1, 0, 1, 5, 13, 101, 251, Integer.MIN_VALUE, Integer.MAX_VALUE};
         a[r.nextInt(a.length)] = odd[r.nextInt(odd.length)];
@@ -86,6 +86,22 @@ public final class ModelTest {
         case "check": return of(r.nextInt(4));
         case "count": return of(r.nextInt(7));
         default: return of(1 + r.nextInt(5));
+      }
+    }
+
+    /** Small numbers, with which several sets of HOURS are as good as one another. */
+    private static int[] smaller(String name, int[] a) {
+      switch (name) {
+        case "round": return of(3 + a[0] % 4);
+        case "height": return of(a[0] % 6, a[1] % 6);
+        case "pond": return of(1 + a[0] % 3, 1 + a[1] % 9, a[2] % 4);
+        case "water": return of(a[0], a[1] % 20);
+        case "channel": return of(a[0], a[1], a[2] % 3);
+        case "mill": return of(a[0], a[1], a[2], a[3] % 4, a[4]);
+        case "stone": return of(a[0], 1 + a[1] % 3, 1 + a[2] % 4, 1 + a[3] % 2, 1 + a[4] % 5);
+        case "sack": return of(a[0], a[1], 1 + a[2] % 40, a[3]);
+        case "tell": return of(a[0] % 6);
+        default: return a;
       }
     }
 

@@ -284,6 +284,14 @@ public final class PromiseTest {
     y.hours(1);
     due("8 cut", y.about(0, 1), 57); // (630 - 500) by 20 is 6
     due("8 cut, the other", y.about(1, 1), 56);
+    y.widen(0, 3);
+    y.water(0, 500);
+    y.water(1, 300);
+    y.hours(1);
+    due("8 by the difference, from a", y.about(0, 1), 440);
+    y.water(1, 640);
+    y.hours(1);
+    due("8 by the difference, from b", y.about(0, 1), 500);
   }
 
   private static void widen() {
@@ -722,6 +730,21 @@ public final class PromiseTest {
     // HOUR 0: 10; HOUR 2 alone: 20; HOURS 0 and 2: 10 + 10. The least set of one HOUR with 20.
     due("21 the fewest hours", x.best(0, 3, 0), 4);
     due("21 of fulling too", x.best(0, 3, 1), 20);
+    // As much in as few HOURS: {1, 2} as bits is less than {0, 3}, each of which grinds 4.
+    TideMill w = flat(4);
+    w.round(5);
+    int[] ebb = {4, 3, 2, 1, 1};
+    for (int i = 0; i < 5; i++) {
+      w.height(i, ebb[i]);
+    }
+    w.pond(1, 7, 0);
+    w.gate(0, 0);
+    w.water(0, 6);
+    w.mill(0, 0, 1, 2, 0);
+    w.stone(0, 3, 1, 2, 2);
+    w.stone(0, 1, 2, 1, 1);
+    due("21 less as a number", w.best(0, 5, 0), 6);
+    due("21 as much", w.best(0, 5, 1), 4);
     // Its own STONES alone are reckoned, and those of others go on.
     TideMill y = shut(1000);
     y.mill(0, 0, 0, 50, 0);

@@ -465,17 +465,13 @@ public final class TideMill {
       search.keepIfBetter(set, ground);
       return;
     }
-    int more = search.goWith(depth);
+    int more = search.goOn(depth, NO_MILL);
     if (more > 0) {
       searchFrom(search, depth + 1, set | 1 << depth, ground + more);
-      search.goWithout(depth);
+      search.goOn(depth, search.mill);
     }
     // Where its STONES would grind nothing, the HOUR is the same without them, and the set smaller.
     searchFrom(search, depth + 1, set, ground);
-  }
-
-  private static int cut(int v, int by) {
-    return by > 0 ? v / by : 0;
   }
 
   private static final class Tides {
@@ -500,7 +496,7 @@ public final class TideMill {
     int gate = GATE_FLAP;
 
     int level(int water) {
-      return cut(water, area);
+      return area > 0 ? water / area : 0;
     }
 
     int brim() {
@@ -724,7 +720,8 @@ public final class TideMill {
     void lead(int[] water, int high, int low, int atMost) {
       int areaHigh = works.ponds[high].area;
       int areaLow = works.ponds[low].area;
-      int toEven = cut(water[high] * areaLow - water[low] * areaHigh, areaHigh + areaLow);
+      int both = areaHigh + areaLow;
+      int toEven = both > 0 ? (water[high] * areaLow - water[low] * areaHigh) / both : 0;
       int part = Math.min(atMost, toEven);
       water[high] -= part;
       water[low] += part;
@@ -812,18 +809,10 @@ public final class TideMill {
       System.arraycopy(waterNow, 0, water[0], 0, MOST_PONDS);
     }
 
-    int goWith(int depth) {
-      goOn(depth, NO_MILL);
-      return flow.groundBy(mill);
-    }
-
-    void goWithout(int depth) {
-      goOn(depth, mill);
-    }
-
-    void goOn(int depth, int restingMill) {
+    int goOn(int depth, int restingMill) {
       System.arraycopy(water[depth], 0, water[depth + 1], 0, MOST_PONDS);
       flow.goBy(water[depth + 1], tides.at(firstHour + depth), restingMill);
+      return flow.groundBy(mill);
     }
 
     void keepIfBetter(int set, int ground) {

@@ -44,6 +44,8 @@ public final class HourEdgesTest {
     gatesThenChannelsThenMillsThenBanks();
     firstSackGetsUpTo();
     sackInTheLastPlace();
+    fullRowInOneHour();
+    whatAllGround();
     tollOfASixteenth();
     lateAboveDue();
     idleIsWhatNoSackTakes();
@@ -399,6 +401,21 @@ public final class HourEdgesTest {
     own.mill(MILL, 0, 0, 250, 0);
     own.stone(0, 1, 100, 1, 1000);
     due("what it KEEPS itself doesn't hold it", own.running(), 1);
+    for (int keeper = 0; keeper < 4; keeper++) {
+      for (int draws = 0; draws < 4; draws++) {
+        if (draws != keeper) {
+          TideMill x = sea(0);
+          pondWith(x, 1000);
+          for (int m = 0; m < 4; m++) {
+            x.mill(MILL, 0, m == keeper ? 4 : 5, 91, 0);
+          }
+          x.stone(draws, 1, 100, 1, 1000);
+          due("MILL " + keeper + " keeps from MILL " + draws, x.running(), 0);
+          x.water(0, 1010);
+          due("MILL " + keeper + " keeps no more from MILL " + draws, x.running(), 1 << 3 * draws);
+        }
+      }
+    }
     int[][] greatest = {{90, 80, 1}, {91, 80, 0}, {80, 91, 0}, {80, 90, 1}};
     for (int[] g : greatest) {
       TideMill x = millAt(1000);
@@ -615,6 +632,52 @@ public final class HourEdgesTest {
     // 960: the old ones want 6 + 19 + 20 + 21, the new ones 105 + .. + 112.
     due("all are DONE", x.told(0, 3), 20);
     due("the rest is IDLE", x.told(0, 5), 960 - 66 - 868);
+  }
+
+  private static void fullRowInOneHour() {
+    for (int more = 0; more <= 1; more++) {
+      TideMill x = grinding(MILL, 0, 12 * 32 + 11 + more); // twelve sacks: eleven of 33, one of 32
+      for (int i = 0; i < 12; i++) {
+        x.sack(0, i % 10, i < 11 ? 33 : 32, 0);
+      }
+      x.hours(1);
+      due("twelve DONE in an HOUR", x.told(0, 3), 12);
+      due("none waits", x.told(0, 7), 0);
+      due("IDLE", x.told(0, 5), more);
+      due("TOLL", x.told(0, 2), 24);
+      due("flour of 0", x.flour(0), 62);
+      due("flour of 1", x.flour(1), 31 + 30);
+      due("flour of 2", x.flour(2), 31);
+    }
+    TideMill y = grinding(MILL, 0, 12 * 32 - 1);
+    for (int i = 0; i < 12; i++) {
+      y.sack(0, i % 10, 32, 0);
+    }
+    y.hours(1);
+    due("eleven DONE, one grain too few", y.told(0, 3), 11);
+    due("which the last one wants", y.row(0, 0, 2), 1);
+  }
+
+  // 19: "n HOURS go by: what all ground."
+  private static void whatAllGround() {
+    TideMill x = sea(0);
+    pondWith(x, 2500);
+    int[] most = {3, 50, 700, 11};
+    int[] kinds = {MILL, BAKERS, FULLING, MILL};
+    for (int m = 0; m < 4; m++) {
+      x.mill(kinds[m], 0, 0, 0, 0);
+      x.stone(m, 1, 1, 20, most[m]);
+      x.stone(m, 1, 1, 20, 1);
+    }
+    due("one HOUR: 4, 51 and 12", x.hours(1), 67);
+    due("five HOURS", x.hours(5), 335);
+    int[] want = {24, 306, 0, 72};
+    for (int m = 0; m < 4; m++) {
+      due("MILL " + m + " in all", x.told(m, 1), want[m]);
+      due("its IDLE", x.told(m, 5), want[m]);
+    }
+    x.water(0, 0);
+    due("nothing", x.hours(100), 0);
   }
 
   // "TOLL of a sixteenth of its AMOUNT, of BAKERS none"
@@ -916,6 +979,16 @@ public final class HourEdgesTest {
       y.tell(level);
     }
     due("not this POND's", y.check(0), 1);
+    for (int level : levels) {
+      y.tell(level);
+    }
+    due("that POND's, whatever was looked at before", y.check(1), 0);
+    y.running();
+    y.ahead(1, 48);
+    y.tell(0);
+    due("and behind ahead()", y.check(1), 0);
+    due("ahead behind check()", y.ahead(1, 1), 0);
+    due("ahead of ahead()", y.ahead(1, 0), 0);
   }
 
   // ---- 23: "0 in PONDS, 1 that came in, 2 that went out, 3 that spilt, 4 that was drawn, 5 that water() put in, less

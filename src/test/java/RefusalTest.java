@@ -122,6 +122,7 @@ public final class RefusalTest {
     all.add(new int[] {all.size(), c.ask(call)});
   }
 
+  /** Nothing refused is asked before the end: what a refusal spoils would then be spoilt in both. */
   private static List<int[]> seen(Counted c) {
     List<int[]> all = new ArrayList<>();
     for (int what = 0; what <= 6; what++) {
@@ -140,9 +141,12 @@ public final class RefusalTest {
       look(all, c, x -> x.flour(who));
     }
     look(all, c, TideMill::running);
-    look(all, c, x -> x.check(0));
+    if (ponds > 0) {
+      look(all, c, x -> x.check(0));
+    }
     lookAtHours(all, c, ponds, mills);
     lookAtWorks(all, c, channels, mills);
+    lookAtKinds(all, c, mills);
     return all;
   }
 
@@ -166,10 +170,6 @@ public final class RefusalTest {
       int w = what;
       look(all, c, x -> x.told(m, w));
     }
-    for (int kind = 0; kind <= 2; kind++) {
-      int k = kind;
-      look(all, c, x -> x.as(m, k));
-    }
     look(all, c, x -> x.best(m, 3, 0));
     int sacks = c.ask(x -> x.told(m, 7));
     for (int i = 0; i < sacks; i++) {
@@ -183,7 +183,8 @@ public final class RefusalTest {
 
   /** WIDTHS of GATES and the numbers of STONES are seen by what the HOURS make of them. */
   private static void lookAtHours(List<int[]> all, Counted c, int ponds, int mills) {
-    for (int i = 0; i < 9; i++) {
+    int left = 10000 - c.ask(x -> x.count(3));
+    for (int i = 0; i < Math.min(9, left); i++) {
       look(all, c, x -> x.hours(1));
       for (int p = 0; p < ponds; p++) {
         int of = p;
@@ -202,8 +203,9 @@ public final class RefusalTest {
       look(all, c, x -> x.widen(of, 0));
     }
     for (int m = 0; m < mills; m++) {
-      for (int s = 0; s < 3; s++) {
-        int of = m;
+      int of = m;
+      int stones = c.ask(x -> x.told(of, 8));
+      for (int s = 0; s < stones; s++) {
         int stone = s;
         look(all, c, x -> x.on(of, stone, 1));
       }
@@ -215,6 +217,16 @@ public final class RefusalTest {
     }
   }
 
+  private static void lookAtKinds(List<int[]> all, Counted c, int mills) {
+    for (int m = 0; m < mills; m++) {
+      for (int kind = 0; kind <= 2; kind++) {
+        int of = m;
+        int k = kind;
+        look(all, c, x -> x.as(of, k));
+      }
+    }
+  }
+
   // ---- what the two are built like
 
   private static void nothing(Counted c) {
@@ -223,7 +235,8 @@ public final class RefusalTest {
   /** Some of each, but room for more: 2 PONDS, 1 CHANNEL, 3 MILLS (one of each kind), STONES, sacks, numbers. */
   private static void some(Counted c) {
     someWithoutNumbers(c);
-    c.ask(x -> x.tell(53));
+    int level = c.ask(x -> x.ahead(0, 1));
+    c.ask(x -> x.tell(level));
     c.ask(x -> x.tell(-7));
   }
 

@@ -18,10 +18,15 @@ public final class TideMill {
   private static final int MOST_RANK = 9;
   private static final int MOST_LEVEL = 250;
   private static final int MOST_STONES = 3;
+  private static final int MOST_LEAST = 200;
+  private static final int MOST_DRAW = 1000;
+  private static final int MOST_RATE = 20;
+  private static final int MOST_GROUND = 1000;
   private static final int MOST_SACKS = 12;
   private static final int MOST_AMOUNT = 2000;
   private static final int CUSTOMERS = 10;
   private static final int LAST_HOUR = 10000;
+  private static final int MOST_HOURS = 100;
   private static final int MOST_BEST_HOURS = 8;
   private static final int MOST_HOURS_AHEAD = 48;
   private static final int MOST_TOLD = 24;
@@ -189,8 +194,8 @@ public final class TideMill {
   }
 
   public int stone(int mill, int least, int draw, int rate, int most) {
-    if (!isMill(mill) || !isWithin(least, 1, 200) || !isWithin(draw, 1, 1000)
-        || !isWithin(rate, 1, 20) || !isWithin(most, 1, 1000)) {
+    if (!isMill(mill) || !isWithin(least, 1, MOST_LEAST) || !isWithin(draw, 1, MOST_DRAW)
+        || !isWithin(rate, 1, MOST_RATE) || !isWithin(most, 1, MOST_GROUND)) {
       return finding(BEYOND);
     }
     Mill at = works.mills[mill];
@@ -284,7 +289,7 @@ public final class TideMill {
   // ---- hours
 
   public int hours(int n) {
-    if (!isWithin(n, 1, 100)) {
+    if (!isWithin(n, 1, MOST_HOURS)) {
       return finding(BEYOND);
     }
     if (hour + n > LAST_HOUR) {

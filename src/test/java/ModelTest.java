@@ -4,17 +4,28 @@ import java.util.List;
 import java.util.Random;
 
 /**
- * Runs of calls drawn from a fixed seed, against a second, slower reading of the document that
- * goes through whole copies of the state wherever "nothing changes".
+ * Runs of 512 calls drawn from a fixed seed, against a second, slower reading of the document that
+ * goes through whole copies of the state wherever "nothing changes". Every third run goes on to HOUR 10000.
  */
 public final class ModelTest {
   private static final int RUNS = 1500;
   private static final int CALLS = 512;
+  private static final int LAST_HOUR = 10000;
+
+  private enum Sort { WIDE, SMALL, LONG }
+
+  private static int runsToTheEnd = 0;
+  private static int checksThatHold = 0;
 
   public static void main(String[] args) {
     int wrong = 0;
     for (int run = 0; run < RUNS && wrong < 10; run++) {
       wrong += oneRun(run);
+    }
+    // The runs are of use only if they get where they are meant to.
+    if (wrong == 0 && (runsToTheEnd < 100 || checksThatHold < 100)) {
+      System.out.println("too few runs to HOUR 10000: " + runsToTheEnd + ", or checks that hold: " + checksThatHold);
+      wrong++;
     }
     System.out.println(wrong == 0 ? "all runs agree with the model" : wrong + " runs do not agree");
     if (wrong != 0) {
@@ -26,16 +37,30 @@ public final class ModelTest {
     Random random = new Random(7919L * run + 1);
     TideMill x = new TideMill();
     Model model = new Model();
+    Sort sort = Sort.values()[run % 3];
     for (int i = 0; i < CALLS; i++) {
-      Call call = Call.drawn(random, i, run % 2 == 1);
+      Call call = rightNumber(random, model, Call.drawn(random, i, sort));
+      int waiting = model.numbers.size();
       int got = call.on(x);
       int want = model.answer(call);
       if (got != want) {
         System.out.println("run " + run + ", call " + i + ": " + call + " answered " + got + ", the model " + want);
         return 1;
       }
+      if (call.name().equals("check") && waiting > 1 && got == 0) checksThatHold++;
     }
+    if (model.hour == LAST_HOUR) runsToTheEnd++;
     return 0;
+  }
+
+  /** Numbers drawn blindly are hardly ever LEVELS, so most are made to be those of POND 0. */
+  private static Call rightNumber(Random r, Model model, Call call) {
+    if (!call.name().equals("tell") || model.ponds.isEmpty() || r.nextInt(4) == 0) {
+      return call;
+    }
+    Model then = model.copy();
+    for (int i = 0; i <= model.numbers.size(); i++) then.goBy();
+    return new Call("tell", new int[] {(int) then.level(0)});
   }
 
   private record Call(String name, int[] a) {
@@ -43,12 +68,16 @@ public final class ModelTest {
     private static final String[] ANY = {"round", "height", "tide", "pond", "gate", "water", "water", "channel",
       "widen", "about", "about", "mill", "as", "stone", "on", "on", "sack", "sack", "sack", "row", "row", "told",
       "told", "told", "told", "flour", "flour", "hours", "hours", "hours", "running", "running", "best", "best",
-      "ahead", "all", "all", "tell", "tell", "check", "count", "found"};
+      "ahead", "all", "all", "tell", "tell", "tell", "tell", "check", "count", "found"};
 
-    static Call drawn(Random r, int i, boolean small) {
+    static Call drawn(Random r, int i, Sort sort) {
       String[] from = i < 40 ? BUILDING : ANY;
       String name = from[r.nextInt(from.length)];
-      int[] a = small ? smaller(name, arguments(name, r)) : arguments(name, r);
+      // So many calls, of up to 100 HOURS each, come to HOUR 10000 some way before the run ends.
+      if (sort == Sort.LONG && i >= 40 && r.nextInt(5) < 2) name = "hours";
+      int[] a = arguments(name, r);
+      if (sort == Sort.SMALL) a = smaller(name, a);
+      if (sort == Sort.LONG) a = longer(name, a, r);
       if (a.length > 0 && r.nextInt(25) == 0) {
         int[] odd = {-1, 0, 1, 5, 13, 101, 251, Integer.MIN_VALUE, Integer.MAX_VALUE};
         a[r.nextInt(a.length)] = odd[r.nextInt(odd.length)];
@@ -83,7 +112,7 @@ public final class ModelTest {
         case "ahead": return of(r.nextInt(4), r.nextInt(49));
         case "all": return of(r.nextInt(6));
         case "tell": return of(r.nextInt(120));
-        case "check": return of(r.nextInt(4));
+        case "check": return of(r.nextInt(3) > 0 ? 0 : r.nextInt(4));
         case "count": return of(r.nextInt(7));
         default: return of(1 + r.nextInt(5));
       }
@@ -101,6 +130,20 @@ public final class ModelTest {
         case "stone": return of(a[0], 1 + a[1] % 3, 1 + a[2] % 4, 1 + a[3] % 2, 1 + a[4] % 5);
         case "sack": return of(a[0], a[1], 1 + a[2] % 40, a[3]);
         case "tell": return of(a[0] % 6);
+        default: return a;
+      }
+    }
+
+    /** Long HOURS, sacks that are DUE far ahead, and the whole breadth of RANKS, KEEPS and CUSTOMERS. */
+    private static int[] longer(String name, int[] a, Random r) {
+      switch (name) {
+        case "hours": return of(r.nextInt(4) == 0 ? 1 + r.nextInt(5) : 100 - r.nextInt(20));
+        case "tide": return of(r.nextInt(LAST_HOUR + 100));
+        case "mill": return of(a[0], a[1], r.nextInt(10), r.nextInt(251), a[0] == 1 ? r.nextInt(10) : 0);
+        case "stone": return of(a[0], 1 + r.nextInt(200), a[2], a[3], a[4]);
+        case "sack": return of(a[0], r.nextInt(10), a[2], r.nextInt(LAST_HOUR + 2000));
+        case "row": return of(a[0], r.nextInt(13), a[2]);
+        case "flour": return of(r.nextInt(10));
         default: return a;
       }
     }
@@ -329,7 +372,7 @@ public final class ModelTest {
         case "flour": return in(a[0], 0, 9) ? flour[a[0]] : beyond;
         case "hours": {
           if (!in(a[0], 1, 100)) return beyond;
-          if (hour + a[0] > 10000) return LOW - 4;
+          if (hour + a[0] > LAST_HOUR) return LOW - 4;
           long sum = 0;
           for (int i = 0; i < a[0]; i++) sum += goBy();
           return sum;
